@@ -1,9 +1,20 @@
 /** Long runs of calls, right and wrong ones, on a CreaseMaps and a NaiveMaps side by side. */
 final class ModelTests {
 
+    private record Call(String name, int a, int b, int c) {
+    }
+
     private static final int RUNS = 250;
     private static final int CALLS = 511;
+    private static final int LONGEST_TEXT = 40;
     private static final String MAP_SIGNS = "||||||||^^^^^^^^abcdef";
+    private static final String[] NAMES = {
+        "fold", "move", "pull", "renew", "ask", "guess", "forget", "append", "clearBuffer", "firstError", "load",
+        "keep", "goBack", "undo", "panelOf", "creaseOf", "between", "town", "count", "ifTouching", "bestQuestion",
+        "folding", "weakest", "sureShare", "digest", "digest", "tellMap"};
+    /** Calls that leave the answers and the creases as they are, so that runs of questions get far. */
+    private static final String[] QUIET_NAMES = {
+        "keep", "town", "count", "count", "ifTouching", "bestQuestion", "creaseOf", "folding", "weakest", "guess"};
 
     private static final Due DUE = new Due("ModelTests");
 
@@ -11,7 +22,7 @@ final class ModelTests {
     private final CreaseMaps maps = new CreaseMaps();
     private final NaiveMaps model = new NaiveMaps();
     private long seed;
-    private String told = "";
+    private int calls;
 
     private ModelTests(int run) {
         this.run = run;
@@ -26,19 +37,17 @@ final class ModelTests {
     }
 
     private void all() {
-        // Each run has a bent of its own: many questions, many foldings of few creases, or many texts.
+        // Each run has a bent of its own, as evenly mixed calls seldom get far from a new object.
         int bent = run % 5;
-        int call = 0;
-        while (call < CALLS - 40) {
-            int[] due = pick(bent);
-            if (due[0] == 90) {
-                call += tellMap();
+        while (calls < CALLS - LONGEST_TEXT) {
+            String name = pickName(bent);
+            if (name.equals("tellMap")) {
+                tellMap();
             } else {
-                one(due);
-                call++;
+                one(withArguments(name, bent));
             }
         }
-        one(new int[] {23});
+        one(new Call("digest", 0, 0, 0));
     }
 
     private int below(int bound) {
@@ -46,72 +55,54 @@ final class ModelTests {
         return (int) ((seed >>> 33) % bound);
     }
 
-    private static int pickOf(int[] values, int index) {
-        return values[index];
-    }
-
     /** Mostly a number of the range, seldom one beside or far from it. */
     private int near(int least, int most) {
         if (below(12) > 0) {
             return least + below(most - least + 1);
         }
-        return pickOf(new int[] {least - 1, most + 1, Integer.MIN_VALUE, Integer.MAX_VALUE}, below(4));
+        int[] wrong = {least - 1, most + 1, Integer.MIN_VALUE, Integer.MAX_VALUE};
+        return wrong[below(wrong.length)];
     }
 
-    private int[] pick(int bent) {
+    private String pickName(int bent) {
         int kind = below(100);
         if (bent == 0 && kind < 40) {
-            return new int[] {4, near(0, 5), near(0, 5)};
+            return "ask";
         }
         if (bent == 1 && kind < 40) {
-            return new int[] {0, below(4) == 0 ? near(0, 8) : below(3)};
+            return "fold";
         }
         if (bent == 2 && kind < 15) {
-            return new int[] {90};
+            return "tellMap";
         }
-        if (bent == 3 && kind < 12) {
-            return new int[] {4, below(6), below(6)};
+        if (bent == 3 && kind < 96) {
+            return kind < 50 ? "ask" : QUIET_NAMES[below(QUIET_NAMES.length)];
         }
-        if (bent == 4 && kind < 55) {
-            return new int[] {kind < 48 ? 4 : 1, near(0, 5), kind < 48 ? near(0, 5) : near(0, 9)};
-        }
-        int what = below(bent == 4 ? 400 : 27);
-        if (what >= 27) {
-            what = pickOf(new int[] {17, 17, 20, 21, 22, 11}, below(6));
-        }
-        if (what == 25) {
-            return new int[] {90};
-        }
-        if (what == 26) {
-            what = 23;
-        }
-        return arguments(what);
+        return NAMES[below(NAMES.length)];
     }
 
-    private int[] arguments(int what) {
-        switch (what) {
-            case 0: return new int[] {0, near(0, 8)};
-            case 1: return new int[] {1, near(0, 5), near(0, 9)};
-            case 2: return new int[] {2, below(2) == 0 ? near(7, 9) : near(1, 9)};
-            case 4: return new int[] {4, near(0, 5), near(0, 5)};
-            case 5: return new int[] {5, near(0, 511)};
-            case 7: return new int[] {7, near(33, 126)};
-            case 11: return new int[] {11, near(0, 1)};
-            case 12: return new int[] {12, near(0, 1)};
-            case 14: return new int[] {14, near(0, 9), near(0, 2)};
-            case 15: return new int[] {15, near(0, 8), near(0, 3)};
-            case 16: return new int[] {16, near(0, 5), near(0, 5), near(0, 3)};
-            case 17: return new int[] {17, near(0, 5)};
-            case 18: return new int[] {18, near(0, 10)};
-            case 19: return new int[] {19, near(0, 5), near(0, 5)};
-            case 21: return new int[] {21, below(3) == 0 ? near(0, 511) : near(0, 9)};
-            default: return new int[] {what};
+    private Call withArguments(String name, int bent) {
+        switch (name) {
+            case "fold": return new Call(name, bent == 1 && below(4) > 0 ? below(3) : near(0, 8), 0, 0);
+            case "move": return new Call(name, near(0, 5), near(0, 9), 0);
+            case "pull": return new Call(name, below(2) == 0 ? near(7, 9) : near(1, 9), 0, 0);
+            case "ask", "ifTouching": return new Call(name, near(0, 5), near(0, 5), 0);
+            case "guess": return new Call(name, near(0, 511), 0, 0);
+            case "append": return new Call(name, near(33, 126), 0, 0);
+            case "keep", "goBack": return new Call(name, near(0, 1), 0, 0);
+            case "panelOf": return new Call(name, near(0, 9), near(0, 2), 0);
+            case "creaseOf": return new Call(name, near(0, 8), near(0, 3), 0);
+            case "between": return new Call(name, near(0, 5), near(0, 5), near(0, 3));
+            case "town": return new Call(name, near(0, 5), 0, 0);
+            case "count": return new Call(name, near(0, 10), 0, 0);
+            case "folding": return new Call(name, below(3) == 0 ? near(0, 511) : near(0, 9), 0, 0);
+            default: return new Call(name, 0, 0, 0);
         }
     }
 
     /** Appends a text that is a map, or nearly one, and loads it. */
-    private int tellMap() {
-        one(new int[] {8});
+    private void tellMap() {
+        one(new Call("clearBuffer", 0, 0, 0));
         StringBuilder text = new StringBuilder();
         for (int k = 0; k < 9; k++) {
             text.append(below(2) == 0 ? '|' : '^');
@@ -122,92 +113,91 @@ final class ModelTests {
             }
         }
         if (below(4) == 0) {
-            int at = below(text.length());
-            text.setCharAt(at, below(3) == 0 ? (char) (33 + below(94)) : MAP_SIGNS.charAt(below(22)));
+            char other = below(3) == 0 ? (char) (33 + below(94)) : MAP_SIGNS.charAt(below(MAP_SIGNS.length()));
+            text.setCharAt(below(text.length()), other);
         }
         if (below(8) == 0) {
             text.deleteCharAt(below(text.length()));
         }
         for (int i = 0; i < text.length(); i++) {
-            one(new int[] {7, text.charAt(i)});
+            one(new Call("append", text.charAt(i), 0, 0));
         }
-        one(new int[] {9});
-        one(new int[] {10});
-        return text.length() + 3;
+        one(new Call("firstError", 0, 0, 0));
+        one(new Call("load", 0, 0, 0));
     }
 
-    private void one(int[] call) {
-        String got = answer(call, true);
-        String want = answer(call, false);
-        told = call[0] + " of " + java.util.Arrays.toString(call);
-        DUE.sameText("run " + run + ", call " + told, got, want);
+    private void one(Call call) {
+        calls++;
+        DUE.sameText("run " + run + ", call " + calls + ", " + call, answer(call, true), answer(call, false));
     }
 
-    private String answer(int[] c, boolean real) {
+    private String answer(Call call, boolean real) {
         try {
-            return Long.toString(real ? ofMaps(c) : ofModel(c));
+            return Long.toString(real ? ofMaps(call) : ofModel(call));
         } catch (RuntimeException e) {
             return e.getClass().getName();
         }
     }
 
-    private long ofMaps(int[] c) {
-        switch (c[0]) {
-            case 0: return maps.fold(c[1]);
-            case 1: return maps.move(c[1], c[2]);
-            case 2: return maps.pull(c[1]);
-            case 3: return maps.renew();
-            case 4: return maps.ask(c[1], c[2]);
-            case 5: return maps.guess(c[1]);
-            case 6: return maps.forget();
-            case 7: return maps.append(c[1]);
-            case 8: return maps.clearBuffer();
-            case 9: return maps.firstError();
-            case 10: return maps.load();
-            case 11: return maps.keep(c[1]);
-            case 12: return maps.goBack(c[1]);
-            case 13: return maps.undo();
-            case 14: return maps.panelOf(c[1], c[2]);
-            case 15: return maps.creaseOf(c[1], c[2]);
-            case 16: return maps.between(c[1], c[2], c[3]);
-            case 17: return maps.town(c[1]);
-            case 18: return maps.count(c[1]);
-            case 19: return maps.ifTouching(c[1], c[2]);
-            case 20: return maps.bestQuestion();
-            case 21: return maps.folding(c[1]);
-            case 22: return maps.weakest();
-            case 23: return maps.digest();
-            default: return Double.doubleToLongBits(maps.sureShare());
+    private long ofMaps(Call call) {
+        switch (call.name) {
+            case "fold": return maps.fold(call.a);
+            case "move": return maps.move(call.a, call.b);
+            case "pull": return maps.pull(call.a);
+            case "renew": return maps.renew();
+            case "ask": return maps.ask(call.a, call.b);
+            case "guess": return maps.guess(call.a);
+            case "forget": return maps.forget();
+            case "append": return maps.append(call.a);
+            case "clearBuffer": return maps.clearBuffer();
+            case "firstError": return maps.firstError();
+            case "load": return maps.load();
+            case "keep": return maps.keep(call.a);
+            case "goBack": return maps.goBack(call.a);
+            case "undo": return maps.undo();
+            case "panelOf": return maps.panelOf(call.a, call.b);
+            case "creaseOf": return maps.creaseOf(call.a, call.b);
+            case "between": return maps.between(call.a, call.b, call.c);
+            case "town": return maps.town(call.a);
+            case "count": return maps.count(call.a);
+            case "ifTouching": return maps.ifTouching(call.a, call.b);
+            case "bestQuestion": return maps.bestQuestion();
+            case "folding": return maps.folding(call.a);
+            case "weakest": return maps.weakest();
+            case "sureShare": return Double.doubleToLongBits(maps.sureShare());
+            case "digest": return maps.digest();
+            default: throw new AssertionError(call.name);
         }
     }
 
-    private long ofModel(int[] c) {
-        switch (c[0]) {
-            case 0: return model.fold(c[1]);
-            case 1: return model.move(c[1], c[2]);
-            case 2: return model.pull(c[1]);
-            case 3: return model.renew();
-            case 4: return model.ask(c[1], c[2]);
-            case 5: return model.guess(c[1]);
-            case 6: return model.forget();
-            case 7: return model.append(c[1]);
-            case 8: return model.clearBuffer();
-            case 9: return model.firstError();
-            case 10: return model.load();
-            case 11: return model.keep(c[1]);
-            case 12: return model.goBack(c[1]);
-            case 13: return model.undo();
-            case 14: return model.panelOf(c[1], c[2]);
-            case 15: return model.creaseOf(c[1], c[2]);
-            case 16: return model.between(c[1], c[2], c[3]);
-            case 17: return model.town(c[1]);
-            case 18: return model.count(c[1]);
-            case 19: return model.ifTouching(c[1], c[2]);
-            case 20: return model.bestQuestion();
-            case 21: return model.folding(c[1]);
-            case 22: return model.weakest();
-            case 23: return model.digest();
-            default: return Double.doubleToLongBits(model.sureShare());
+    private long ofModel(Call call) {
+        switch (call.name) {
+            case "fold": return model.fold(call.a);
+            case "move": return model.move(call.a, call.b);
+            case "pull": return model.pull(call.a);
+            case "renew": return model.renew();
+            case "ask": return model.ask(call.a, call.b);
+            case "guess": return model.guess(call.a);
+            case "forget": return model.forget();
+            case "append": return model.append(call.a);
+            case "clearBuffer": return model.clearBuffer();
+            case "firstError": return model.firstError();
+            case "load": return model.load();
+            case "keep": return model.keep(call.a);
+            case "goBack": return model.goBack(call.a);
+            case "undo": return model.undo();
+            case "panelOf": return model.panelOf(call.a, call.b);
+            case "creaseOf": return model.creaseOf(call.a, call.b);
+            case "between": return model.between(call.a, call.b, call.c);
+            case "town": return model.town(call.a);
+            case "count": return model.count(call.a);
+            case "ifTouching": return model.ifTouching(call.a, call.b);
+            case "bestQuestion": return model.bestQuestion();
+            case "folding": return model.folding(call.a);
+            case "weakest": return model.weakest();
+            case "sureShare": return Double.doubleToLongBits(model.sureShare());
+            case "digest": return model.digest();
+            default: throw new AssertionError(call.name);
         }
     }
 }
