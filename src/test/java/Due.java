@@ -27,8 +27,8 @@ final class Due {
         judge(got.equals(want), call + " gave " + got + ", due is " + want);
     }
 
-    void holds(String what, boolean true1) {
-        judge(true1, what);
+    void holds(String what, boolean right) {
+        judge(right, what);
     }
 
     void throwsIt(String call, Class<? extends RuntimeException> want, Call run) {

@@ -454,6 +454,27 @@ final class PromiseTests {
         due("answers are undone", maps.count(3), 0);
         due("the buffer is not", maps.clearBuffer(), 1);
         due("the slot is not", maps.goBack(0), 1);
+
+        CreaseMaps asked = new CreaseMaps();
+        asked.fold(2);
+        asked.ask(2, 3);
+        asked.ask(1, 5);
+        asked.keep(0);
+        asked.forget();
+        asked.ask(0, 1);
+        asked.ask(1, 2);
+        asked.goBack(0);
+        due("the answer of the slot", asked.between(2, 3, 3), 1);
+        due("the other one", asked.between(1, 5, 3), 0);
+        due("not the later one", asked.between(0, 1, 3), -1);
+        asked.undo();
+        due("the answer that is undone is gone", asked.between(2, 3, 3), -1);
+        due("the later one is back", asked.between(1, 2, 3), 0);
+        asked.undo();
+        asked.undo();
+        asked.undo();
+        due("the first ones are back", asked.between(2, 3, 3), 1);
+        due("and no others", asked.between(1, 2, 3), -1);
     }
 
     /** Each undoable call in turn: undo after it brings back the digest from before, but for what undo leaves. */
@@ -606,6 +627,16 @@ final class PromiseTests {
         }
     }
 
+    /** A strip with but one folding left. */
+    private static CreaseMaps allTorn() {
+        CreaseMaps maps = new CreaseMaps();
+        for (int crease = 0; crease < 9; crease++) {
+            maps.fold(crease);
+        }
+        maps.pull(9);
+        return maps;
+    }
+
     private static void countOfFoldings() {
         CreaseMaps maps = new CreaseMaps();
         int[] fits = {256, 128, 64, 32, 16};
@@ -620,11 +651,7 @@ final class PromiseTests {
         CreaseMaps far = loaded("a^|^|^|^|^f");
         due("far ones touch not", far.ask(0, 5), far.between(0, 5, 2));
         due("count(4) and count(5)", far.count(5), far.count(4));
-        CreaseMaps allTorn = new CreaseMaps();
-        for (int crease = 0; crease < 9; crease++) {
-            allTorn.fold(crease);
-        }
-        allTorn.pull(9);
+        CreaseMaps allTorn = allTorn();
         due("all torn", allTorn.count(1), 9);
         due("one folding is left", allTorn.count(4), 1);
         due("one walk is left", allTorn.count(5), 1);
@@ -726,6 +753,7 @@ final class PromiseTests {
         DUE.same("of those that do not touch", six.sureShare(), 1.0 / (512 - 80));
         maps.undo();
         DUE.same("of 512 again", maps.sureShare(), 0.001953125);
+        DUE.same("of one alone", allTorn().sureShare(), 1.0);
     }
 
     // ---- promise 26
