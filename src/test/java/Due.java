@@ -1,6 +1,13 @@
 /** Counts checks, prints those that fail, and ends the program with 1 if there was one. */
 final class Due {
 
+    static final Class<IndexOutOfBoundsException> INDEX = IndexOutOfBoundsException.class;
+    static final Class<IllegalArgumentException> ARGUMENT = IllegalArgumentException.class;
+    static final Class<IllegalStateException> STATE = IllegalStateException.class;
+    /** The ends of int. */
+    static final int LOW = Integer.MIN_VALUE;
+    static final int HIGH = Integer.MAX_VALUE;
+
     interface Call {
         double answer();
     }

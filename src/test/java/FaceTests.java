@@ -39,6 +39,7 @@ final class FaceTests {
         otherMembers();
         classesInside();
         bitsOfShares();
+        shareOfNone();
         source(args.length > 0 ? args[0] : "src/main/java/CreaseMaps.java");
         DUE.end();
     }
@@ -110,6 +111,32 @@ final class FaceTests {
             double share = 1.0 / fits;
             DUE.sameLong("bits of 1/" + fits, (Long) bits.invoke(null, share), Double.doubleToLongBits(share));
         }
+    }
+
+    /**
+     * "0.0 if none fits": the folding that is always fits, as every call that changes it takes the answers away; so the
+     * one answer, that a panel lies where it lies, is made untrue behind the face.
+     */
+    private static void shareOfNone() throws ReflectiveOperationException {
+        CreaseMaps maps = Made.loaded("|||||||||");
+        maps.ask(0, 1);
+        DUE.same("one answer, and all fit", maps.sureShare(), 1.0 / 512);
+        CreaseMaps untrue = Made.loaded("|||||||||");
+        untrue.ask(0, 1);
+        Object answers = inside(inside(untrue, "now"), "answers");
+        ((int[]) inside(answers, "meetings"))[0] = 0;
+        DUE.same("none fits: sureShare()", untrue.sureShare(), 0.0);
+        DUE.sameLong("none fits: told by all", untrue.count(4), 0);
+        DUE.sameLong("none fits: told by walking", untrue.count(5), 0);
+        DUE.sameLong("none fits: folding(0)", untrue.folding(0), -1);
+        DUE.sameLong("none fits: folding(511)", untrue.folding(511), -1);
+        DUE.sameLong("none fits: ifTouching(0, 1)", untrue.ifTouching(0, 1), 0);
+    }
+
+    private static Object inside(Object holder, String name) throws ReflectiveOperationException {
+        Field field = holder.getClass().getDeclaredField(name);
+        field.setAccessible(true);
+        return field.get(holder);
     }
 
     private static void source(String file) throws IOException {

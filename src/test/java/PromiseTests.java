@@ -1,11 +1,6 @@
 /** Each promise of the document by itself: ordinary inputs, its edges and wrong inputs, with answers told by hand. */
 final class PromiseTests {
 
-    private static final Class<IndexOutOfBoundsException> INDEX = IndexOutOfBoundsException.class;
-    private static final Class<IllegalArgumentException> ARGUMENT = IllegalArgumentException.class;
-    private static final Class<IllegalStateException> STATE = IllegalStateException.class;
-    private static final int LOW = Integer.MIN_VALUE;
-    private static final int HIGH = Integer.MAX_VALUE;
     /** Computed by hand from the list of promise 26, so that the class and the naive model cannot drift together. */
     private static final long NEW_DIGEST = -6485961066790205214L;
 
@@ -50,33 +45,6 @@ final class PromiseTests {
         DUE.sameLong(call, got, want);
     }
 
-    private static void type(CreaseMaps maps, String text) {
-        for (int i = 0; i < text.length(); i++) {
-            maps.append(text.charAt(i));
-        }
-    }
-
-    private static CreaseMaps loaded(String text) {
-        CreaseMaps maps = new CreaseMaps();
-        type(maps, text);
-        maps.load();
-        return maps;
-    }
-
-    private static void foldTimes(CreaseMaps maps, int crease, int times) {
-        for (int i = 0; i < times; i++) {
-            maps.fold(crease);
-        }
-    }
-
-    /** A strip whose crease 0 is torn with a wear of 1. */
-    private static CreaseMaps torn() {
-        CreaseMaps maps = new CreaseMaps();
-        maps.fold(0);
-        maps.pull(9);
-        return maps;
-    }
-
     // ---- promise 1
     private static void newObject() {
         CreaseMaps maps = new CreaseMaps();
@@ -96,9 +64,9 @@ final class PromiseTests {
             }
         }
         due("new: clearBuffer()", maps.clearBuffer(), 0);
-        DUE.throwsIt("new: goBack(0)", STATE, () -> maps.goBack(0));
-        DUE.throwsIt("new: goBack(1)", STATE, () -> maps.goBack(1));
-        DUE.throwsIt("new: undo()", STATE, maps::undo);
+        DUE.throwsIt("new: goBack(0)", Due.STATE, () -> maps.goBack(0));
+        DUE.throwsIt("new: goBack(1)", Due.STATE, () -> maps.goBack(1));
+        DUE.throwsIt("new: undo()", Due.STATE, maps::undo);
         due("NONE", CreaseMaps.NONE, -1);
         CreaseMaps other = new CreaseMaps();
         other.fold(3);
@@ -120,7 +88,7 @@ final class PromiseTests {
         maps.fold(1);
         due("fold takes answers away", maps.count(3), 0);
 
-        CreaseMaps torn = torn();
+        CreaseMaps torn = Made.torn();
         torn.ask(0, 1);
         int saved = torn.count(10);
         due("fold of a torn crease", torn.fold(0), -1);
@@ -131,8 +99,8 @@ final class PromiseTests {
         due("refused fold saves", torn.count(10), saved + 1);
         torn.undo();
         due("refused count is undone", torn.count(9), 0);
-        for (int crease : new int[] {-1, 9, LOW, HIGH}) {
-            DUE.throwsIt("fold(" + crease + ")", INDEX, () -> maps.fold(crease));
+        for (int crease : new int[] {-1, 9, Due.LOW, Due.HIGH}) {
+            DUE.throwsIt("fold(" + crease + ")", Due.INDEX, () -> maps.fold(crease));
         }
     }
 
@@ -147,22 +115,22 @@ final class PromiseTests {
         due("move to the same panel", maps.move(2, 0), 0);
         due("it takes answers away, too", maps.count(3), 0);
         due("saved by move", maps.count(10), 4);
-        for (int wrong : new int[] {-1, 6, LOW, HIGH}) {
-            DUE.throwsIt("move(" + wrong + ", 0)", INDEX, () -> maps.move(wrong, 0));
-            DUE.throwsIt("move(" + wrong + ", 10)", INDEX, () -> maps.move(wrong, 10));
+        for (int wrong : new int[] {-1, 6, Due.LOW, Due.HIGH}) {
+            DUE.throwsIt("move(" + wrong + ", 0)", Due.INDEX, () -> maps.move(wrong, 0));
+            DUE.throwsIt("move(" + wrong + ", 10)", Due.INDEX, () -> maps.move(wrong, 10));
         }
-        for (int wrong : new int[] {-1, 10, LOW, HIGH}) {
-            DUE.throwsIt("move(0, " + wrong + ")", ARGUMENT, () -> maps.move(0, wrong));
+        for (int wrong : new int[] {-1, 10, Due.LOW, Due.HIGH}) {
+            DUE.throwsIt("move(0, " + wrong + ")", Due.ARGUMENT, () -> maps.move(0, wrong));
         }
     }
 
     // ---- promise 4
     private static void pull() {
         CreaseMaps maps = new CreaseMaps();
-        foldTimes(maps, 0, 1);
-        foldTimes(maps, 1, 3);
-        foldTimes(maps, 2, 4);
-        foldTimes(maps, 3, 9);
+        Made.foldTimes(maps, 0, 1);
+        Made.foldTimes(maps, 1, 3);
+        Made.foldTimes(maps, 2, 4);
+        Made.foldTimes(maps, 3, 9);
         due("pull(6): 4 needed, only crease 3 is folded with it", maps.pull(6), 1);
         due("torn 3", maps.creaseOf(3, 2), 1);
         due("torn 3 is flat", maps.creaseOf(3, 0), 0);
@@ -178,21 +146,21 @@ final class PromiseTests {
         due("pull(8): 2 needed", maps.pull(8), 0);
         due("pull(9): 1 needed", maps.pull(9), 1);
         due("torn ones", maps.count(1), 3);
-        CreaseMaps told = loaded("^^^^^^^^^");
+        CreaseMaps told = Made.loaded("^^^^^^^^^");
         due("without wear nothing tears", told.pull(9), 0);
         CreaseMaps strong = new CreaseMaps();
-        foldTimes(strong, 8, 9);
-        foldTimes(strong, 7, 7);
+        Made.foldTimes(strong, 8, 9);
+        Made.foldTimes(strong, 7, 7);
         due("pull(1) at 9", strong.pull(1), 1);
         due("pull(2): 8 needed", strong.pull(2), 0);
-        for (int wrong : new int[] {0, 10, -1, LOW, HIGH}) {
-            DUE.throwsIt("pull(" + wrong + ")", ARGUMENT, () -> maps.pull(wrong));
+        for (int wrong : new int[] {0, 10, -1, Due.LOW, Due.HIGH}) {
+            DUE.throwsIt("pull(" + wrong + ")", Due.ARGUMENT, () -> maps.pull(wrong));
         }
     }
 
     // ---- promise 5
     private static void renew() {
-        CreaseMaps maps = torn();
+        CreaseMaps maps = Made.torn();
         maps.fold(5);
         maps.move(1, 7);
         maps.ask(0, 1);
@@ -212,23 +180,23 @@ final class PromiseTests {
 
     // ---- promise 6
     private static void ask() {
-        CreaseMaps maps = loaded("ab^^c|^d||^e^f|");
+        CreaseMaps maps = Made.loaded("ab^^c|^d||^e^f|");
         due("ask(0, 2)", maps.ask(0, 2), 1);
         due("ask(2, 3)", maps.ask(2, 3), 0);
         due("ask(0, 1) on one panel", maps.ask(0, 1), 1);
         due("answers", maps.count(3), 3);
         due("questions", maps.count(6), 3);
         due("saved by ask", maps.count(10), 4);
-        for (int wrong : new int[] {-1, 6, LOW, HIGH}) {
-            DUE.throwsIt("ask(" + wrong + ", 0)", INDEX, () -> maps.ask(wrong, 0));
-            DUE.throwsIt("ask(0, " + wrong + ")", INDEX, () -> maps.ask(0, wrong));
-            DUE.throwsIt("ask of a wrong one twice", INDEX, () -> maps.ask(wrong, wrong));
+        for (int wrong : new int[] {-1, 6, Due.LOW, Due.HIGH}) {
+            DUE.throwsIt("ask(" + wrong + ", 0)", Due.INDEX, () -> maps.ask(wrong, 0));
+            DUE.throwsIt("ask(0, " + wrong + ")", Due.INDEX, () -> maps.ask(0, wrong));
+            DUE.throwsIt("ask of a wrong one twice", Due.INDEX, () -> maps.ask(wrong, wrong));
         }
-        DUE.throwsIt("ask(3, 3)", ARGUMENT, () -> maps.ask(3, 3));
+        DUE.throwsIt("ask(3, 3)", Due.ARGUMENT, () -> maps.ask(3, 3));
     }
 
     private static void askRefused() {
-        CreaseMaps maps = loaded("ab|cd|ef|||||||");
+        CreaseMaps maps = Made.loaded("ab|cd|ef|||||||");
         due("ask(0, 2)", maps.ask(0, 2), 0);
         due("ask(2, 0)", maps.ask(2, 0), -1);
         due("other towns of the same panels", maps.ask(3, 1), -1);
@@ -258,7 +226,7 @@ final class PromiseTests {
 
     // ---- promise 7
     private static void guess() {
-        CreaseMaps maps = loaded("^^|^||^^|");
+        CreaseMaps maps = Made.loaded("^^|^||^^|");
         int folding = 1 + 2 + 8 + 64 + 128;
         due("a right guess", maps.guess(folding), 10);
         due("one crease off", maps.guess(folding ^ 256), 8);
@@ -271,12 +239,12 @@ final class PromiseTests {
         CreaseMaps flat = new CreaseMaps();
         due("guess(0)", flat.guess(0), 10);
         due("guess(511)", flat.guess(511), 0);
-        due("a torn crease in it", torn().guess(1), 8);
+        due("a torn crease in it", Made.torn().guess(1), 8);
         flat.ask(0, 1);
         flat.guess(0);
         due("answers stay", flat.count(3), 1);
-        for (int wrong : new int[] {-1, 512, LOW, HIGH}) {
-            DUE.throwsIt("guess(" + wrong + ")", ARGUMENT, () -> maps.guess(wrong));
+        for (int wrong : new int[] {-1, 512, Due.LOW, Due.HIGH}) {
+            DUE.throwsIt("guess(" + wrong + ")", Due.ARGUMENT, () -> maps.guess(wrong));
         }
     }
 
@@ -300,14 +268,14 @@ final class PromiseTests {
         CreaseMaps maps = new CreaseMaps();
         due("append(33)", maps.append(33), 1);
         due("append(126)", maps.append(126), 2);
-        for (int wrong : new int[] {32, 127, 0, -1, LOW, HIGH}) {
-            DUE.throwsIt("append(" + wrong + ")", ARGUMENT, () -> maps.append(wrong));
+        for (int wrong : new int[] {32, 127, 0, -1, Due.LOW, Due.HIGH}) {
+            DUE.throwsIt("append(" + wrong + ")", Due.ARGUMENT, () -> maps.append(wrong));
         }
         for (int length = 3; length <= 60; length++) {
             due("append to " + length, maps.append('|'), length);
         }
-        DUE.throwsIt("append to a full buffer", STATE, () -> maps.append('|'));
-        DUE.throwsIt("append(32) to a full buffer", ARGUMENT, () -> maps.append(32));
+        DUE.throwsIt("append to a full buffer", Due.STATE, () -> maps.append('|'));
+        DUE.throwsIt("append(32) to a full buffer", Due.ARGUMENT, () -> maps.append(32));
         due("nothing is saved", maps.count(10), 0);
         due("length", maps.clearBuffer(), 60);
         due("append to a cleared one", maps.append('a'), 1);
@@ -317,11 +285,11 @@ final class PromiseTests {
     private static void clearBuffer() {
         CreaseMaps maps = new CreaseMaps();
         due("of an empty one", maps.clearBuffer(), 0);
-        type(maps, "ab|");
+        Made.type(maps, "ab|");
         due("of three", maps.clearBuffer(), 3);
         due("again", maps.clearBuffer(), 0);
         due("nothing is saved", maps.count(10), 0);
-        type(maps, "|||||||||");
+        Made.type(maps, "|||||||||");
         due("what was there is gone", maps.firstError(), 9);
         due("it loads", maps.load(), 0);
     }
@@ -334,7 +302,7 @@ final class PromiseTests {
         int[] errors = {0, 1, 0, 0, 0, 0, 1, 1, 2, 6, 2, 4, 9, 9, 9, 15, 6, 10, 2, 15, 11, 12, 0, 0, 0};
         for (int i = 0; i < texts.length; i++) {
             CreaseMaps maps = new CreaseMaps();
-            type(maps, texts[i]);
+            Made.type(maps, texts[i]);
             due("firstError() of " + texts[i], maps.firstError(), errors[i]);
             due("the buffer stays", maps.clearBuffer(), texts[i].length());
         }
@@ -342,10 +310,10 @@ final class PromiseTests {
 
     // ---- promise 12
     private static void load() {
-        CreaseMaps maps = torn();
+        CreaseMaps maps = Made.torn();
         maps.ask(0, 1);
         maps.fold(7);
-        type(maps, "b|a^||^e|^||cf");
+        Made.type(maps, "b|a^||^e|^||cf");
         int saved = maps.count(10);
         due("load()", maps.load(), 3);
         due("saved by load", maps.count(10), saved + 1);
@@ -366,8 +334,8 @@ final class PromiseTests {
         String[] wrong = {"", "||||||||", "||||||||||", "a|||a||||||", "|||||||||g", "x", "^^^^^^^^"};
         for (String text : wrong) {
             CreaseMaps none = new CreaseMaps();
-            type(none, text);
-            DUE.throwsIt("load() of " + text, ARGUMENT, none::load);
+            Made.type(none, text);
+            DUE.throwsIt("load() of " + text, Due.ARGUMENT, none::load);
             due("nothing is saved", none.count(10), 0);
             due("the buffer stays", none.clearBuffer(), text.length());
         }
@@ -390,20 +358,20 @@ final class PromiseTests {
         maps.undo();
         maps.undo();
         due("undo leaves the slots", maps.goBack(1), 2);
-        for (int wrong : new int[] {-1, 2, LOW, HIGH}) {
-            DUE.throwsIt("keep(" + wrong + ")", ARGUMENT, () -> maps.keep(wrong));
+        for (int wrong : new int[] {-1, 2, Due.LOW, Due.HIGH}) {
+            DUE.throwsIt("keep(" + wrong + ")", Due.ARGUMENT, () -> maps.keep(wrong));
         }
     }
 
     // ---- promise 14
     private static void goBack() {
-        CreaseMaps maps = torn();
+        CreaseMaps maps = Made.torn();
         maps.move(5, 8);
         maps.ask(0, 1);
         maps.fold(0);
         maps.guess(0);
         maps.keep(1);
-        type(maps, "ab");
+        Made.type(maps, "ab");
         maps.renew();
         maps.move(5, 2);
         maps.guess(0);
@@ -424,9 +392,9 @@ final class PromiseTests {
         due("and is as it was", maps.creaseOf(1, 0), 0);
         maps.undo();
         due("goBack is undone", maps.creaseOf(1, 0), 1);
-        DUE.throwsIt("goBack(0) of an empty slot", STATE, () -> maps.goBack(0));
-        for (int wrong : new int[] {-1, 2, LOW, HIGH}) {
-            DUE.throwsIt("goBack(" + wrong + ")", ARGUMENT, () -> maps.goBack(wrong));
+        DUE.throwsIt("goBack(0) of an empty slot", Due.STATE, () -> maps.goBack(0));
+        for (int wrong : new int[] {-1, 2, Due.LOW, Due.HIGH}) {
+            DUE.throwsIt("goBack(" + wrong + ")", Due.ARGUMENT, () -> maps.goBack(wrong));
         }
     }
 
@@ -442,13 +410,13 @@ final class PromiseTests {
             due("folded then", maps.count(0), left + 2);
             due("wear of the last", maps.creaseOf(left + 2, 1), 0);
         }
-        DUE.throwsIt("undo() of the two that were dropped", STATE, maps::undo);
+        DUE.throwsIt("undo() of the two that were dropped", Due.STATE, maps::undo);
         due("it stays", maps.count(0), 2);
         maps.fold(8);
         due("undo() goes on", maps.undo(), 0);
         maps.ask(0, 2);
         maps.keep(0);
-        type(maps, "a");
+        Made.type(maps, "a");
         maps.undo();
         due("questions are undone", maps.count(6), 0);
         due("answers are undone", maps.count(3), 0);
@@ -480,13 +448,13 @@ final class PromiseTests {
     /** Each undoable call in turn: undo after it brings back the digest from before, but for what undo leaves. */
     private static void everyUndoableCallSaves() {
         for (int call = 0; call < 9; call++) {
-            CreaseMaps maps = torn();
+            CreaseMaps maps = Made.torn();
             maps.ask(0, 1);
             maps.keep(0);
             maps.guess(0);
             maps.fold(3);
             maps.ask(1, 2);
-            type(maps, "|||^^||||");
+            Made.type(maps, "|||^^||||");
             if (call == 8) {
                 maps.load();
                 maps.undo();
@@ -515,7 +483,7 @@ final class PromiseTests {
 
     // ---- promise 16
     private static void panelOf() {
-        CreaseMaps maps = loaded("ab^^c|^d||^e^f|");
+        CreaseMaps maps = Made.loaded("ab^^c|^d||^e^f|");
         int[][] rows = {
             {100, 3, 4}, {100, 0, 4}, {100, 4, 4}, {101, 0, 2}, {101, 8, 2},
             {100, 0, 4}, {99, 0, 3}, {99, 16, 3}, {99, 32, 3}, {98, 0, 1}};
@@ -524,23 +492,23 @@ final class PromiseTests {
                 due("panelOf(" + panel + ", " + what + ")", maps.panelOf(panel, what), rows[panel][what]);
             }
         }
-        CreaseMaps left = loaded("^||||||||");
+        CreaseMaps left = Made.loaded("^||||||||");
         due("to the left", left.panelOf(9, 0), 92);
-        CreaseMaps one = loaded("^^^^^^^^^");
+        CreaseMaps one = Made.loaded("^^^^^^^^^");
         due("all at one place", one.panelOf(5, 2), 10);
         due("all towns on one panel", one.panelOf(0, 1), 63);
-        for (int wrong : new int[] {-1, 10, LOW, HIGH}) {
-            DUE.throwsIt("panelOf(" + wrong + ", 0)", INDEX, () -> maps.panelOf(wrong, 0));
-            DUE.throwsIt("panelOf(" + wrong + ", 3)", INDEX, () -> maps.panelOf(wrong, 3));
+        for (int wrong : new int[] {-1, 10, Due.LOW, Due.HIGH}) {
+            DUE.throwsIt("panelOf(" + wrong + ", 0)", Due.INDEX, () -> maps.panelOf(wrong, 0));
+            DUE.throwsIt("panelOf(" + wrong + ", 3)", Due.INDEX, () -> maps.panelOf(wrong, 3));
         }
-        for (int wrong : new int[] {-1, 3, LOW, HIGH}) {
-            DUE.throwsIt("panelOf(0, " + wrong + ")", ARGUMENT, () -> maps.panelOf(0, wrong));
+        for (int wrong : new int[] {-1, 3, Due.LOW, Due.HIGH}) {
+            DUE.throwsIt("panelOf(0, " + wrong + ")", Due.ARGUMENT, () -> maps.panelOf(0, wrong));
         }
     }
 
     // ---- promise 17
     private static void creaseOf() {
-        CreaseMaps maps = torn();
+        CreaseMaps maps = Made.torn();
         maps.fold(1);
         maps.fold(2);
         maps.fold(2);
@@ -557,18 +525,18 @@ final class PromiseTests {
         due("not sure", maps.creaseOf(8, 3), -1);
         maps.undo();
         due("not sure any more", maps.creaseOf(2, 3), -1);
-        for (int wrong : new int[] {-1, 9, LOW, HIGH}) {
-            DUE.throwsIt("creaseOf(" + wrong + ", 0)", INDEX, () -> maps.creaseOf(wrong, 0));
-            DUE.throwsIt("creaseOf(" + wrong + ", 4)", INDEX, () -> maps.creaseOf(wrong, 4));
+        for (int wrong : new int[] {-1, 9, Due.LOW, Due.HIGH}) {
+            DUE.throwsIt("creaseOf(" + wrong + ", 0)", Due.INDEX, () -> maps.creaseOf(wrong, 0));
+            DUE.throwsIt("creaseOf(" + wrong + ", 4)", Due.INDEX, () -> maps.creaseOf(wrong, 4));
         }
-        for (int wrong : new int[] {-1, 4, LOW, HIGH}) {
-            DUE.throwsIt("creaseOf(0, " + wrong + ")", ARGUMENT, () -> maps.creaseOf(0, wrong));
+        for (int wrong : new int[] {-1, 4, Due.LOW, Due.HIGH}) {
+            DUE.throwsIt("creaseOf(0, " + wrong + ")", Due.ARGUMENT, () -> maps.creaseOf(0, wrong));
         }
     }
 
     // ---- promise 18
     private static void between() {
-        CreaseMaps maps = loaded("ab^^c|^d||^e^f|");
+        CreaseMaps maps = Made.loaded("ab^^c|^d||^e^f|");
         int[][] calls = {{2, 5}, {5, 2}, {0, 2}, {3, 3}, {0, 1}, {3, 4}};
         int[][] rows = {{6, 1, 0}, {6, 1, 0}, {2, 0, 1}, {0, 0, 1}, {0, 0, 1}, {3, 2, 0}};
         for (int i = 0; i < calls.length; i++) {
@@ -585,12 +553,12 @@ final class PromiseTests {
         due("of the panels, so of b too", maps.between(1, 2, 3), 1);
         maps.ask(0, 1);
         due("of one panel, so of a and a too", maps.between(0, 0, 3), 1);
-        for (int wrong : new int[] {-1, 6, LOW, HIGH}) {
-            DUE.throwsIt("between(" + wrong + ", 0, 0)", INDEX, () -> maps.between(wrong, 0, 0));
-            DUE.throwsIt("between(0, " + wrong + ", 4)", INDEX, () -> maps.between(0, wrong, 4));
+        for (int wrong : new int[] {-1, 6, Due.LOW, Due.HIGH}) {
+            DUE.throwsIt("between(" + wrong + ", 0, 0)", Due.INDEX, () -> maps.between(wrong, 0, 0));
+            DUE.throwsIt("between(0, " + wrong + ", 4)", Due.INDEX, () -> maps.between(0, wrong, 4));
         }
-        for (int wrong : new int[] {-1, 4, LOW, HIGH}) {
-            DUE.throwsIt("between(0, 0, " + wrong + ")", ARGUMENT, () -> maps.between(0, 0, wrong));
+        for (int wrong : new int[] {-1, 4, Due.LOW, Due.HIGH}) {
+            DUE.throwsIt("between(0, 0, " + wrong + ")", Due.ARGUMENT, () -> maps.between(0, 0, wrong));
         }
     }
 
@@ -600,14 +568,14 @@ final class PromiseTests {
         maps.move(5, 9);
         due("town(5)", maps.town(5), 9);
         due("town(0)", maps.town(0), 0);
-        for (int wrong : new int[] {-1, 6, LOW, HIGH}) {
-            DUE.throwsIt("town(" + wrong + ")", INDEX, () -> maps.town(wrong));
+        for (int wrong : new int[] {-1, 6, Due.LOW, Due.HIGH}) {
+            DUE.throwsIt("town(" + wrong + ")", Due.INDEX, () -> maps.town(wrong));
         }
     }
 
     // ---- promise 20
     private static void count() {
-        CreaseMaps maps = torn();
+        CreaseMaps maps = Made.torn();
         maps.fold(4);
         maps.fold(0);
         maps.ask(3, 5);
@@ -619,22 +587,12 @@ final class PromiseTests {
         for (int what = 0; what < counts.length; what++) {
             due("count(" + what + ")", maps.count(what), counts[what]);
         }
-        due("width of all at one place", loaded("^^^^^^^^^").count(2), 1);
-        due("width to the left", loaded("^||||||||").count(2), 9);
-        due("width to both sides", loaded("||^||||||").count(2), 7);
-        for (int wrong : new int[] {-1, 11, LOW, HIGH}) {
-            DUE.throwsIt("count(" + wrong + ")", ARGUMENT, () -> maps.count(wrong));
+        due("width of all at one place", Made.loaded("^^^^^^^^^").count(2), 1);
+        due("width to the left", Made.loaded("^||||||||").count(2), 9);
+        due("width to both sides", Made.loaded("||^||||||").count(2), 7);
+        for (int wrong : new int[] {-1, 11, Due.LOW, Due.HIGH}) {
+            DUE.throwsIt("count(" + wrong + ")", Due.ARGUMENT, () -> maps.count(wrong));
         }
-    }
-
-    /** A strip with but one folding left. */
-    private static CreaseMaps allTorn() {
-        CreaseMaps maps = new CreaseMaps();
-        for (int crease = 0; crease < 9; crease++) {
-            maps.fold(crease);
-        }
-        maps.pull(9);
-        return maps;
     }
 
     private static void countOfFoldings() {
@@ -648,10 +606,10 @@ final class PromiseTests {
         // With the creases 0 to 4 flat every further answer is known.
         maps.ask(0, 5);
         due("count(4) of one known", maps.count(4), 16);
-        CreaseMaps far = loaded("a^|^|^|^|^f");
+        CreaseMaps far = Made.loaded("a^|^|^|^|^f");
         due("far ones touch not", far.ask(0, 5), far.between(0, 5, 2));
         due("count(4) and count(5)", far.count(5), far.count(4));
-        CreaseMaps allTorn = allTorn();
+        CreaseMaps allTorn = Made.allTorn();
         due("all torn", allTorn.count(1), 9);
         due("one folding is left", allTorn.count(4), 1);
         due("one walk is left", allTorn.count(5), 1);
@@ -659,7 +617,7 @@ final class PromiseTests {
 
     // ---- promise 21
     private static void ifTouching() {
-        CreaseMaps maps = loaded("ab^^c|^d||^e^f|");
+        CreaseMaps maps = Made.loaded("ab^^c|^d||^e^f|");
         due("on one panel", maps.ifTouching(0, 1), 512);
         due("two apart", maps.ifTouching(0, 2), 128);
         due("six apart", maps.ifTouching(2, 5), 80);
@@ -668,13 +626,13 @@ final class PromiseTests {
         due("known", maps.ifTouching(2, 0), 128);
         maps.ask(2, 5);
         due("known not to", maps.ifTouching(2, 5), 0);
-        due("a torn crease", torn().ifTouching(0, 1), 0);
-        for (int wrong : new int[] {-1, 6, LOW, HIGH}) {
-            DUE.throwsIt("ifTouching(" + wrong + ", 0)", INDEX, () -> maps.ifTouching(wrong, 0));
-            DUE.throwsIt("ifTouching(0, " + wrong + ")", INDEX, () -> maps.ifTouching(0, wrong));
-            DUE.throwsIt("ifTouching of a wrong one twice", INDEX, () -> maps.ifTouching(wrong, wrong));
+        due("a torn crease", Made.torn().ifTouching(0, 1), 0);
+        for (int wrong : new int[] {-1, 6, Due.LOW, Due.HIGH}) {
+            DUE.throwsIt("ifTouching(" + wrong + ", 0)", Due.INDEX, () -> maps.ifTouching(wrong, 0));
+            DUE.throwsIt("ifTouching(0, " + wrong + ")", Due.INDEX, () -> maps.ifTouching(0, wrong));
+            DUE.throwsIt("ifTouching of a wrong one twice", Due.INDEX, () -> maps.ifTouching(wrong, wrong));
         }
-        DUE.throwsIt("ifTouching(5, 5)", ARGUMENT, () -> maps.ifTouching(5, 5));
+        DUE.throwsIt("ifTouching(5, 5)", Due.ARGUMENT, () -> maps.ifTouching(5, 5));
     }
 
     // ---- promise 22
@@ -689,13 +647,13 @@ final class PromiseTests {
         due("the last half", maps.bestQuestion(), 45);
         maps.ask(4, 5);
         due("all are known, the least that is not kept", maps.bestQuestion(), 2);
-        due("towns on one panel", loaded("|||||||||").bestQuestion(), -1);
-        CreaseMaps two = loaded("abcde|f||||||||");
+        due("towns on one panel", Made.loaded("|||||||||").bestQuestion(), -1);
+        CreaseMaps two = Made.loaded("abcde|f||||||||");
         due("two panels", two.bestQuestion(), 5);
         two.ask(2, 5);
         due("two panels, kept", two.bestQuestion(), -1);
-        due("lesser town first", loaded("b|acdef||||||||").bestQuestion(), 1);
-        due("even ones apart", loaded("af|||b|c||d||e|").bestQuestion(), 12);
+        due("lesser town first", Made.loaded("b|acdef||||||||").bestQuestion(), 1);
+        due("even ones apart", Made.loaded("af|||b|c||d||e|").bestQuestion(), 12);
         CreaseMaps full = new CreaseMaps();
         for (int other = 1; other < 6; other++) {
             for (int town = 0; town < other; town++) {
@@ -707,7 +665,7 @@ final class PromiseTests {
 
     // ---- promise 23
     private static void folding() {
-        CreaseMaps maps = loaded("ab^^c|^d||^e^f|");
+        CreaseMaps maps = Made.loaded("ab^^c|^d||^e^f|");
         due("folding(0)", maps.folding(0), 0);
         due("folding(511)", maps.folding(511), 511);
         due("folding(512)", maps.folding(512), -1);
@@ -717,29 +675,29 @@ final class PromiseTests {
         due("folding(100)", maps.folding(100), 403);
         due("folding(127)", maps.folding(127), 511);
         due("folding(128)", maps.folding(128), -1);
-        due("folding(the greatest)", maps.folding(HIGH), -1);
-        due("without the torn", torn().folding(1), 2);
-        DUE.throwsIt("folding(-1)", ARGUMENT, () -> maps.folding(-1));
-        DUE.throwsIt("folding(the least)", ARGUMENT, () -> maps.folding(LOW));
+        due("folding(the greatest)", maps.folding(Due.HIGH), -1);
+        due("without the torn", Made.torn().folding(1), 2);
+        DUE.throwsIt("folding(-1)", Due.ARGUMENT, () -> maps.folding(-1));
+        DUE.throwsIt("folding(the least)", Due.ARGUMENT, () -> maps.folding(Due.LOW));
     }
 
     // ---- promise 24
     private static void weakest() {
         CreaseMaps maps = new CreaseMaps();
         due("none", maps.weakest(), -1);
-        foldTimes(maps, 0, 4);
+        Made.foldTimes(maps, 0, 4);
         due("a flat one", maps.weakest(), -1);
-        foldTimes(maps, 8, 1);
+        Made.foldTimes(maps, 8, 1);
         due("one", maps.weakest(), 8);
-        foldTimes(maps, 3, 3);
-        foldTimes(maps, 6, 3);
-        foldTimes(maps, 1, 1);
+        Made.foldTimes(maps, 3, 3);
+        Made.foldTimes(maps, 6, 3);
+        Made.foldTimes(maps, 1, 1);
         due("the lowest of the greatest", maps.weakest(), 3);
-        foldTimes(maps, 6, 2);
+        Made.foldTimes(maps, 6, 2);
         due("the greatest", maps.weakest(), 6);
         maps.pull(7);
         due("the torn ones are flat", maps.weakest(), 1);
-        due("without wear", loaded("||^||^|||").weakest(), 2);
+        due("without wear", Made.loaded("||^||^|||").weakest(), 2);
     }
 
     // ---- promise 25
@@ -748,12 +706,12 @@ final class PromiseTests {
         DUE.same("of 512", maps.sureShare(), 0.001953125);
         maps.ask(0, 1);
         DUE.same("of 256", maps.sureShare(), 0.00390625);
-        CreaseMaps six = loaded("a||||||f|||");
+        CreaseMaps six = Made.loaded("a||||||f|||");
         six.ask(0, 5);
         DUE.same("of those that do not touch", six.sureShare(), 1.0 / (512 - 80));
         maps.undo();
         DUE.same("of 512 again", maps.sureShare(), 0.001953125);
-        DUE.same("of one alone", allTorn().sureShare(), 1.0);
+        DUE.same("of one alone", Made.allTorn().sureShare(), 1.0);
     }
 
     // ---- promise 26
@@ -789,7 +747,7 @@ final class PromiseTests {
 
     // ---- "looks; nothing is changed", and "what would be; nothing is changed"
     private static void looksChangeNothing() {
-        CreaseMaps maps = loaded("ab^^c|^d||^e^f|");
+        CreaseMaps maps = Made.loaded("ab^^c|^d||^e^f|");
         maps.ask(0, 2);
         maps.append('x');
         long before = maps.digest();
@@ -811,20 +769,20 @@ final class PromiseTests {
     }
 
     private static void throwingChangesNothing() {
-        CreaseMaps maps = torn();
+        CreaseMaps maps = Made.torn();
         maps.ask(0, 1);
-        type(maps, "ab||g");
+        Made.type(maps, "ab||g");
         long before = maps.digest();
-        DUE.throwsIt("fold(9)", INDEX, () -> maps.fold(9));
-        DUE.throwsIt("move(0, 10)", ARGUMENT, () -> maps.move(0, 10));
-        DUE.throwsIt("pull(0)", ARGUMENT, () -> maps.pull(0));
-        DUE.throwsIt("ask(0, 0)", ARGUMENT, () -> maps.ask(0, 0));
-        DUE.throwsIt("guess(512)", ARGUMENT, () -> maps.guess(512));
-        DUE.throwsIt("append(32)", ARGUMENT, () -> maps.append(32));
-        DUE.throwsIt("load()", ARGUMENT, maps::load);
-        DUE.throwsIt("keep(2)", ARGUMENT, () -> maps.keep(2));
-        DUE.throwsIt("goBack(2)", ARGUMENT, () -> maps.goBack(2));
-        DUE.throwsIt("goBack(0)", STATE, () -> maps.goBack(0));
+        DUE.throwsIt("fold(9)", Due.INDEX, () -> maps.fold(9));
+        DUE.throwsIt("move(0, 10)", Due.ARGUMENT, () -> maps.move(0, 10));
+        DUE.throwsIt("pull(0)", Due.ARGUMENT, () -> maps.pull(0));
+        DUE.throwsIt("ask(0, 0)", Due.ARGUMENT, () -> maps.ask(0, 0));
+        DUE.throwsIt("guess(512)", Due.ARGUMENT, () -> maps.guess(512));
+        DUE.throwsIt("append(32)", Due.ARGUMENT, () -> maps.append(32));
+        DUE.throwsIt("load()", Due.ARGUMENT, maps::load);
+        DUE.throwsIt("keep(2)", Due.ARGUMENT, () -> maps.keep(2));
+        DUE.throwsIt("goBack(2)", Due.ARGUMENT, () -> maps.goBack(2));
+        DUE.throwsIt("goBack(0)", Due.STATE, () -> maps.goBack(0));
         due("digest()", maps.digest(), before);
     }
 }
