@@ -9,7 +9,6 @@ import java.util.ArrayList;
 import java.util.List;
 import java.util.regex.Matcher;
 import java.util.regex.Pattern;
-import java.util.spi.ToolProvider;
 import java.util.stream.Stream;
 
 /** README.md: its examples answer what it says, and it leaves out no call of the face and no test. */
@@ -61,8 +60,8 @@ final class ReadmeTests {
             Files.writeString(source, "public final class ReadmeExample {\n"
                     + "public static java.util.List<Long> answers() {\n"
                     + "java.util.List<Long> answers = new java.util.ArrayList<>();\n" + body + "return answers;\n}\n}\n");
-            int compiled = ToolProvider.findFirst("javac").orElseThrow().run(System.out, System.out, "-cp",
-                    System.getProperty("java.class.path"), "-d", folder.toString(), source.toString());
+            int compiled = new ProcessBuilder("javac", "-cp", System.getProperty("java.class.path"), "-d",
+                    folder.toString(), source.toString()).inheritIO().start().waitFor();
             DUE.sameLong("README.md's examples compile", compiled, 0);
             if (compiled != 0) {
                 return List.of();
